@@ -421,12 +421,9 @@ public final class GradeTexts {
         /** A seventh digit stays where it is: nothing that may follow a number is a digit. */
         int passNumber() {
             int number = 0;
-            for (int i = 0; i < MOST_DIGITS; i++) {
-                int digit = passDigit(10);
-                if (digit == NONE) {
-                    break;
-                }
-                number = number * 10 + digit;
+            for (int i = 0; i < MOST_DIGITS && here() >= '0' && here() <= '9'; i++) {
+                number = number * 10 + (here() - '0');
+                at++;
             }
             return number;
         }

@@ -209,6 +209,10 @@ public final class PromiseTests {
         dueRead("1:(1;", -5);
         dueRead("1:1,", -4);
         dueRead("1:1;", -4);
+        dueRead("1:1=", -5);
+        dueRead("1:1=;2:", -5);
+        dueRead("1:1=1+", -7);
+        dueRead("1:1=1,2", -8);
         dueRead("1:1=2)", -6);
         dueRead("1:1=2<3", -6);
         dueRead("1:ll=1", -4);
@@ -369,6 +373,11 @@ public final class PromiseTests {
         due("face(0)", g.face(0), 0);
         due("worst", g.worst(0, 100, 1), 0);
         due("there is room again", g.fault(0, 2, 0, 0, 0, 0), 1);
+        due("a fault of kind 0 again", g.fault(1, 0, 10, 0, 2, 3), 2);
+        due("worst of the new ones alone", g.worst(0, 100, 1), 6);
+        due("face(0) of the new ones alone", g.face(0), 1);
+        due("graded by the new ones alone", g.run(0), 2);
+        dueRaise(g, 1, 0, 1);
     }
 
     private static void promise9Face() {
@@ -401,6 +410,7 @@ public final class PromiseTests {
         dueGrade("1:s0=7,s1=20,s2=0", 1);
         dueGrade("1:e0=2,e1=0,e2=w", 1);
         dueGrade("1:f0=3,f1=1", 1);
+        dueGrade("1:l=1;1:w!20;1:t>5;1:n0!3;1:a0<57;1:s0>7;1:e0=1;1:e2!w;1:f0=2;1:c03=1;2:n0=3", 2);
         dueGrade("1:c02=1,c03=2,c020=2,c021=3,c00=0,c0-5=0", 1);
         dueGrade("1:c0n0=2,c0(l/2)=3,c2l=0", 1);
         dueGrade("1:2+3*4=14,2*3+4=10,10-3-2=5,100/5/2=10,7-2*3=1", 1);
