@@ -465,6 +465,9 @@ public final class BoundaryTests {
         checkRead("( at the end", "1:(", -4);
         checkRead("a number before (", "1:1(1)=1", -4);
         checkRead("a number behind )", "1:(1)1=1", -6);
+        checkHolds("eight, with sums that wait at each on the right side", "7=" + times(8, "1-(") + "6+1" + times(8, ")"));
+        checkHolds("eight, with sums that wait at each on both sides",
+            times(8, "1-(") + "6+1" + times(8, ")") + "=" + times(8, "2-(") + "6+1" + times(8, ")"));
         checkHolds("eight, with sums that wait at each", times(8, "1+2*(") + "1+2*3" + times(8, ")") + "=511+2*3*256");
     }
 
@@ -980,6 +983,8 @@ public final class BoundaryTests {
         check("15: no fault need be absent, though one might", "text 1:n0<5;2:", "3 fault 0 0 0 0 0 0", "run 0 -> 1",
             "raise 1 0 -> -1", "raise 1 1 -> -1");
         check("15: it can't be: no rule of the grade", "text 1:", "fault 0 0 0 0 0 0", "run 0", "raise 2 0 -> -1");
+        check("15: it can't be: without the fault no rule holds, which is no grade 0", "text 1:n0=1", "fault 0 0 0 0 0 0",
+            "run 0 -> 1", "raise 0 0 -> -1", "raise 9 0 -> -1");
         check("15: it can't be: the rule never holds", "text 1:n0=2;2:", "fault 0 0 0 0 0 0", "run 0", "raise 1 0 -> -1");
         check("15: it can't be: a rule before holds, too", "text 1:n0<2;2:n0<1;3:", "3 fault 0 0 0 0 0 0", "run 0 -> 3",
             "raise 2 0 -> -1", "raise 1 0 -> 0", "raise 1 1 -> 1", "raise 1 2 -> -1");
