@@ -166,10 +166,16 @@ public final class OracleTests {
             try {
                 return String.valueOf(method.invoke(object, given));
             } catch (InvocationTargetException e) {
-                return "throws " + e.getCause().getClass().getName();
+                boolean byMachine = object instanceof GradeTexts && isOfMachine(e.getCause());
+                return (byMachine ? "the machine throws " : "throws ") + e.getCause().getClass().getName();
             }
         }
         throw new IllegalStateException("no method " + name);
+    }
+
+    /** The class writes a text into each exception; an index that the machine refuses has the machine's, or none. */
+    private static boolean isOfMachine(Throwable thrown) {
+        return thrown.getMessage() == null || thrown.getMessage().startsWith("Index ");
     }
 
     /** Texts of the grammar, with ( ) and zeros that nobody needs, and now and then a wrong character. */
